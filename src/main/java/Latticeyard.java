@@ -3,7 +3,7 @@ import java.util.NoSuchElementException;
 
 /**
  * A yard of grids in the plane: shortest steps, cells, coins, polygons with corners on the grid,
- * points that are seen, leaps and hulls.
+ * points that are seen, leaps and hulls. What each call of the face promises stands in DOC.md.
  *
  * <p>Every index, divisor and reference is looked at before it is used, so that nothing is ever
  * thrown but by a throw statement. Rows are made once, with the yard, and used again by each call.
@@ -41,13 +41,11 @@ public final class Latticeyard {
     private final Leaper leaper = new Leaper();
     private final HullRow hullRow = new HullRow();
 
-    /** Creates a yard whose slots hold none, without coins and corners, with an empty text. */
     public Latticeyard() {
     }
 
-    // ---- grids
+    // ---- grids (promises 2 to 12)
 
-    /** Lets a slot become the grid that two steps span; answers its index. */
     public int spanned(int slot, int x, int y, int u, int v)
             throws IndexOutOfBoundsException, IllegalArgumentException, UnsupportedOperationException {
         checkSlot(slot);
@@ -62,7 +60,6 @@ public final class Latticeyard {
         return become(slot, grid);
     }
 
-    /** Lets a slot become the grid where p * x + q * y is a multiple of a number; answers its index. */
     public int remainder(int slot, int p, int q, int by)
             throws IndexOutOfBoundsException, IllegalArgumentException {
         checkSlot(slot);
@@ -72,7 +69,6 @@ public final class Latticeyard {
         return become(slot, Grid.ofMultiples(p, q, by));
     }
 
-    /** Lets a slot become the grid of an index that has a number; answers its a. */
     public int nth(int slot, int index, int rank)
             throws IndexOutOfBoundsException, IllegalArgumentException, NoSuchElementException {
         checkSlot(slot);
@@ -85,7 +81,6 @@ public final class Latticeyard {
         return grid.a;
     }
 
-    /** Answers how many grids of an index there are. */
     public int grids(int index) throws IllegalArgumentException {
         checkRange(index, 1, GREATEST_LISTED_INDEX);
         int sum = 0;
@@ -97,7 +92,6 @@ public final class Latticeyard {
         return sum;
     }
 
-    /** Answers a, b or c of a grid. */
     public int form(int slot, char which)
             throws IndexOutOfBoundsException, IllegalArgumentException, NoSuchElementException {
         checkSlot(slot);
@@ -111,13 +105,11 @@ public final class Latticeyard {
         return which == 'b' ? grid.b : grid.c;
     }
 
-    /** Tells whether a grid has a point. */
     public boolean has(int slot, int x, int y) throws IndexOutOfBoundsException, NoSuchElementException {
         checkSlot(slot);
         return gridIn(slot).contains(x, y);
     }
 
-    /** Tells whether two grids are the same. */
     public boolean isSame(int a, int b) throws IndexOutOfBoundsException, NoSuchElementException {
         checkSlot(a);
         checkSlot(b);
@@ -126,7 +118,6 @@ public final class Latticeyard {
         return one.a == other.a && one.b == other.b && one.c == other.c;
     }
 
-    /** Answers how many parts one grid has within another one. */
     public int parts(int a, int b)
             throws IndexOutOfBoundsException, NoSuchElementException, UnsupportedOperationException {
         checkSlot(a);
@@ -139,7 +130,6 @@ public final class Latticeyard {
         return one.index() / other.index();
     }
 
-    /** Lets a slot become the meet of two grids; answers its index. */
     public int meet(int slot, int a, int b)
             throws IndexOutOfBoundsException, NoSuchElementException, IllegalStateException {
         checkSlot(slot);
@@ -153,7 +143,6 @@ public final class Latticeyard {
         return become(slot, Grid.meetOf(one, other));
     }
 
-    /** Lets a slot become the join of two grids; answers its index. */
     public int join(int slot, int a, int b) throws IndexOutOfBoundsException, NoSuchElementException {
         checkSlot(slot);
         checkSlot(a);
@@ -163,7 +152,6 @@ public final class Latticeyard {
         return become(slot, Grid.joinOf(one, other));
     }
 
-    /** Lets the slot of the latest call that is kept hold what it held ahead of it; answers the slot. */
     public int undo() throws NoSuchElementException {
         if (keptCount < 1 || keptCount > KEPT_CALLS) {
             throw new NoSuchElementException("no call is kept");
@@ -177,9 +165,8 @@ public final class Latticeyard {
         return slot;
     }
 
-    // ---- steps, cells
+    // ---- steps, cells (promises 13 to 21)
 
-    /** Answers the x of a step. */
     public int stepX(int slot, int number)
             throws IndexOutOfBoundsException, IllegalArgumentException, NoSuchElementException {
         checkSlot(slot);
@@ -188,7 +175,6 @@ public final class Latticeyard {
         return stepRow.xOf(number);
     }
 
-    /** Answers the y of a step. */
     public int stepY(int slot, int number)
             throws IndexOutOfBoundsException, IllegalArgumentException, NoSuchElementException {
         checkSlot(slot);
@@ -197,14 +183,12 @@ public final class Latticeyard {
         return stepRow.yOf(number);
     }
 
-    /** Answers the number of the first step that is not in a line with the step 0, or -1. */
     public int second(int slot) throws IndexOutOfBoundsException, NoSuchElementException {
         checkSlot(slot);
         listSteps(gridIn(slot));
         return stepRow.firstAside();
     }
 
-    /** Answers how many points of a grid but 0, 0 have at most a length. */
     public int steps(int slot, int length)
             throws IndexOutOfBoundsException, IllegalArgumentException, NoSuchElementException {
         checkSlot(slot);
@@ -212,28 +196,24 @@ public final class Latticeyard {
         return gridIn(slot).countUpTo(length);
     }
 
-    /** Answers the x of the nearest point to a point. */
     public int nearX(int slot, int x, int y)
             throws IndexOutOfBoundsException, IllegalArgumentException, NoSuchElementException {
         seekNearest(slot, x, y);
         return (int) basis.foundX;
     }
 
-    /** Answers the y of the nearest point to a point. */
     public int nearY(int slot, int x, int y)
             throws IndexOutOfBoundsException, IllegalArgumentException, NoSuchElementException {
         seekNearest(slot, x, y);
         return (int) basis.foundY;
     }
 
-    /** Answers how many corners the cell of a grid has. */
     public int corners(int slot) throws IndexOutOfBoundsException, NoSuchElementException {
         checkSlot(slot);
         drawCell(gridIn(slot));
         return cell.count;
     }
 
-    /** Puts the x or the y of a corner of the cell into the text; answers how many signs it has. */
     public int tellCorner(int slot, int number, boolean isX)
             throws IndexOutOfBoundsException, NoSuchElementException {
         checkSlot(slot);
@@ -245,7 +225,6 @@ public final class Latticeyard {
         return text.becomeFraction(over, cell.under);
     }
 
-    /** Answers a sign of the text. */
     public char signAt(int place) throws IndexOutOfBoundsException {
         if (place < 0 || place >= text.length) {
             throw new IndexOutOfBoundsException("no such place");
@@ -253,9 +232,8 @@ public final class Latticeyard {
         return text.sign(place);
     }
 
-    // ---- coins
+    // ---- coins (promises 22 to 27)
 
-    /** Tells the kinds of coins; answers the greatest lack. */
     public int coins(int a, int b, int c, int d)
             throws IllegalArgumentException, UnsupportedOperationException {
         if (!Purse.areValues(a, b, c, d)) {
@@ -268,13 +246,11 @@ public final class Latticeyard {
         return purse.greatest;
     }
 
-    /** Answers how many lacks there are. */
     public int lacks() throws IllegalStateException {
         checkCoins();
         return purse.lackCount;
     }
 
-    /** Answers a lack. */
     public int lackAt(int index) throws IllegalStateException, NoSuchElementException {
         checkCoins();
         if (index < 0 || index >= purse.lackCount) {
@@ -283,14 +259,12 @@ public final class Latticeyard {
         return purse.lackOf(index);
     }
 
-    /** Tells whether a sum can be made. */
     public boolean canMake(int sum) throws IllegalStateException, IllegalArgumentException {
         checkCoins();
         checkRange(sum, 0, GREATEST_SUM);
         return purse.leastCoins(sum) >= 0;
     }
 
-    /** Answers the fewest coins that make a sum. */
     public int fewest(int sum)
             throws IllegalStateException, IllegalArgumentException, NoSuchElementException {
         checkCoins();
@@ -302,16 +276,14 @@ public final class Latticeyard {
         return least;
     }
 
-    /** Puts in how many ways a sum can be made into the text; answers how many signs it has. */
     public int ways(int sum) throws IllegalStateException, IllegalArgumentException {
         checkCoins();
         checkRange(sum, 0, GREATEST_SUM);
         return text.becomeNumber(purse.wayCount(sum));
     }
 
-    // ---- the polygon
+    // ---- the polygon (promises 28 to 37)
 
-    /** Types a corner; answers how many are typed. */
     public int corner(int x, int y) throws IllegalArgumentException, IllegalStateException {
         checkRange(x, -FARTHEST_CORNER, FARTHEST_CORNER);
         checkRange(y, -FARTHEST_CORNER, FARTHEST_CORNER);
@@ -322,12 +294,10 @@ public final class Latticeyard {
         return polygon.count;
     }
 
-    /** Takes all corners away; answers how many they were. */
     public int clear() {
         return polygon.takeAway();
     }
 
-    /** Closes the corners that are typed; answers twice the area. */
     public int close() throws IllegalStateException, UnsupportedOperationException {
         if (polygon.count < 3) {
             throw new IllegalStateException("too few corners");
@@ -339,31 +309,26 @@ public final class Latticeyard {
         return polygon.twiceArea();
     }
 
-    /** Answers how many points are on the rim. */
     public int rim() throws IllegalStateException {
         checkClosed();
         return polygon.rimPoints();
     }
 
-    /** Answers how many points are within the polygon, not on its rim. */
     public int within() throws IllegalStateException {
         checkClosed();
         return (polygon.twiceArea() - polygon.rimPoints() + 2) / 2;
     }
 
-    /** Tells where a point is: 'w' within, 'r' on the rim, 'o' out of it. */
     public char where(int x, int y) throws IllegalStateException {
         checkClosed();
         return polygon.placeOf(x, y, 1);
     }
 
-    /** Tells whether the polygon has all places between any two of its own. */
     public boolean isConvex() throws IllegalStateException {
         checkClosed();
         return polygon.turnsOneWay();
     }
 
-    /** Puts how many points the polygon has, grown some times, into the text; answers its signs. */
     public int grown(int times) throws IllegalStateException, IllegalArgumentException {
         checkClosed();
         checkRange(times, 1, MOST_TIMES);
@@ -375,7 +340,6 @@ public final class Latticeyard {
         return text.becomeProductAndOne(sum / 2, times);
     }
 
-    /** Answers a corner of a triangle. */
     public int triangleAt(int number, int which) throws IllegalStateException, NoSuchElementException {
         checkClosed();
         if (number < 0 || number >= polygon.count - 2 || which < 0 || which > 2) {
@@ -384,7 +348,6 @@ public final class Latticeyard {
         return polygon.ears.cornerOf(number, which);
     }
 
-    /** Tells whether the polygon tiles the plane by a grid. */
     public boolean tiles(int slot) throws IndexOutOfBoundsException, IllegalStateException,
             NoSuchElementException, UnsupportedOperationException {
         checkSlot(slot);
@@ -396,15 +359,13 @@ public final class Latticeyard {
         return polygon.fillsBy(grid);
     }
 
-    // ---- seen points, leaps
+    // ---- seen points, leaps (promises 38 to 40)
 
-    /** Answers how many seen points there are. */
     public int seen(int up) throws IllegalArgumentException {
         checkRange(up, 1, GREATEST_SEEN);
         return countSeen(up);
     }
 
-    /** Answers a seen point, 100 times its x, plus its y. */
     public int seenAt(int up, int index) throws IllegalArgumentException, NoSuchElementException {
         checkRange(up, 1, GREATEST_SEEN);
         if (index < 0 || index >= countSeen(up)) {
@@ -413,7 +374,6 @@ public final class Latticeyard {
         return findSeen(up, index);
     }
 
-    /** Answers the fewest leaps of a leaper to a point. */
     public int leaps(int a, int b, int x, int y) throws IllegalArgumentException, NoSuchElementException {
         checkRange(a, 0, 4);
         checkRange(b, 0, 4);
@@ -429,15 +389,13 @@ public final class Latticeyard {
         return count;
     }
 
-    // ---- terms, hulls
+    // ---- terms, hulls (promises 41 to 44)
 
-    /** Answers how many terms two numbers have. */
     public int terms(int p, int q) throws IllegalArgumentException {
         checkFraction(p, q);
         return countTerms(p, q);
     }
 
-    /** Answers a term of two numbers. */
     public int termAt(int p, int q, int index) throws IllegalArgumentException, NoSuchElementException {
         checkFraction(p, q);
         if (index < 0 || index >= countTerms(p, q)) {
@@ -446,14 +404,12 @@ public final class Latticeyard {
         return findTerm(p, q, index);
     }
 
-    /** Answers how many corners the hull above p / q has. */
     public int hull(int p, int q) throws IllegalArgumentException {
         checkFraction(p, q);
         hullRow.build(p, q);
         return hullRow.count;
     }
 
-    /** Answers a corner of the hull above p / q, 1000 times its x, plus its y. */
     public int hullAt(int p, int q, int index) throws IllegalArgumentException, NoSuchElementException {
         checkFraction(p, q);
         hullRow.build(p, q);
@@ -463,9 +419,8 @@ public final class Latticeyard {
         return 1000 * hullRow.xOf(index) + hullRow.yOf(index);
     }
 
-    // ---- figures
+    // ---- figures (promises 45 to 47)
 
-    /** Answers how many slots hold a grid. */
     public int held() {
         int count = 0;
         for (int slot = 0; slot < SLOTS; slot++) {
@@ -476,7 +431,6 @@ public final class Latticeyard {
         return count;
     }
 
-    /** Answers a sum over all, a long that goes round. */
     public long checksum() {
         long sum = 7;
         for (int slot = 0; slot < SLOTS; slot++) {
@@ -494,7 +448,6 @@ public final class Latticeyard {
         return text.addTo(sum);
     }
 
-    /** Checks the theorem for what there is. */
     public boolean isSound() {
         for (int slot = 0; slot < SLOTS; slot++) {
             Grid grid = slots[slot];
