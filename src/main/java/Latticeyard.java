@@ -1361,13 +1361,13 @@ public final class Latticeyard {
             boolean isOdd = false;
             for (int corner = 0; corner < count; corner++) {
                 int next = after(corner);
-                long x1 = times * xOf(corner);
                 long y1 = times * yOf(corner);
-                long x2 = times * xOf(next);
                 long y2 = times * yOf(next);
                 if (y < Math.min(y1, y2) || y > Math.max(y1, y2)) {
                     continue;
                 }
+                long x1 = times * xOf(corner);
+                long x2 = times * xOf(next);
                 long turn = (x2 - x1) * (y - y1) - (y2 - y1) * (x - x1);
                 if (turn == 0 && x >= Math.min(x1, x2) && x <= Math.max(x1, x2)) {
                     return 'r';
@@ -1438,12 +1438,30 @@ public final class Latticeyard {
             return isOdd;
         }
 
+        private int least(int[] row) {
+            int least = FARTHEST_CORNER;
+            for (int corner = 0; corner < count && corner < row.length; corner++) {
+                least = Math.min(least, row[corner]);
+            }
+            return least;
+        }
+
+        private int greatest(int[] row) {
+            int greatest = -FARTHEST_CORNER;
+            for (int corner = 0; corner < count && corner < row.length; corner++) {
+                greatest = Math.max(greatest, row[corner]);
+            }
+            return greatest;
+        }
+
         boolean countsAgree(int times) {
-            int far = times * FARTHEST_CORNER;
             int inside = 0;
             int onRim = 0;
-            for (int x = -far; x <= far; x++) {
-                for (int y = -far; y <= far; y++) {
+            int right = times * greatest(xs);
+            int bottom = times * least(ys);
+            int top = times * greatest(ys);
+            for (int x = times * least(xs); x <= right; x++) {
+                for (int y = bottom; y <= top; y++) {
                     char place = placeOf(x, y, times);
                     inside += place == 'w' ? 1 : 0;
                     onRim += place == 'r' ? 1 : 0;
@@ -1558,12 +1576,15 @@ public final class Latticeyard {
         int countTo(int a, int b, int x, int y) {
             Arrays.fill(counts, -1);
             queued = 0;
+            int wanted = placeOfPoint(x, y);
+            if (wanted < 0) {
+                return -1;
+            }
             comeTo(0, 0, 0);
-            for (int next = 0; next < queued; next++) {
+            for (int next = 0; next < queued && counts[wanted] < 0; next++) {
                 leapFrom(queue[next], a, b);
             }
-            int place = placeOfPoint(x, y);
-            return place < 0 ? -1 : counts[place];
+            return counts[wanted];
         }
 
         private void leapFrom(int place, int a, int b) {

@@ -320,6 +320,14 @@ public final class PolygonTest {
         apex.close();
         compareTriangle(apex, 0, 3, 0, 1, "apex");
         compareTriangle(apex, 1, 1, 2, 3, "apex");
+        apex.clear();
+        for (int[] at : new int[][] {{0, 0}, {2, 0}, {2, 2}, {0, 2}}) {
+            apex.corner(at[0], at[1]);
+        }
+        CHECK.due("another one in the same yard", apex.close(), 8);
+        compareTriangle(apex, 0, 3, 0, 1, "another one");
+        compareTriangle(apex, 1, 1, 2, 3, "another one");
+        CHECK.refused("no more triangles", apex, NoSuchElementException.class, () -> apex.triangleAt(2, 0));
         Latticeyard widest = typed(-20, -20, 20, -20, 20, 20, -20, 20);
         CHECK.due("widest", widest.close(), 3200);
         CHECK.due("widest rim", widest.rim(), 160);
@@ -434,20 +442,17 @@ public final class PolygonTest {
             at[i][1] = numbers[2 * i + 1];
         }
         int area = yard.close() / 2;
-        int found = 0;
         for (int index = Math.max(1, area - 1); index <= Math.min(200, area + 1); index++) {
             int all = yard.grids(index);
             for (int rank = 0; rank < all; rank += factor) {
                 yard.nth(0, index, rank);
                 boolean due = slowTiles(yard, at, index);
-                found += due ? 1 : 0;
                 CHECK.due("tiles " + Arrays.toString(numbers) + " by " + index + " " + rank,
                         yard.tiles(0) ? 1 : 0, due ? 1 : 0);
             }
         }
         yard.nth(0, 1, 0);
         CHECK.due("tiles by all points", yard.tiles(0) ? 1 : 0, area == 1 ? 1 : 0);
-        CHECK.yes("compared " + found, found >= 0);
     }
 
     private static void uprightTiles() {
@@ -474,6 +479,18 @@ public final class PolygonTest {
         CHECK.yes("not the widest square", !yard.tiles(0));
         yard.spanned(0, 400, 0, 0, 400);
         CHECK.yes("too few squares", !yard.tiles(0));
+        compareTiles(new int[] {0, 0, 20, 0, 20, 10, 0, 10}, 1);
+        // A square of the one side is put to the other side, in its row or in another one.
+        compareTiles(new int[] {-1, 9, 0, 9, 0, 0, 20, 0, 20, 9, 19, 9, 19, 10, -1, 10}, 1);
+        compareTiles(new int[] {-1, 0, 20, 0, 20, 9, 19, 9, 19, 10, 0, 10, 0, 1, -1, 1}, 1);
+        Latticeyard moved = typed(-1, 9, 0, 9, 0, 0, 20, 0, 20, 9, 19, 9, 19, 10, -1, 10);
+        moved.close();
+        moved.spanned(0, 20, 0, 0, 10);
+        CHECK.yes("in its row", moved.tiles(0));
+        Latticeyard lost = typed(-1, 0, 20, 0, 20, 9, 19, 9, 19, 10, 0, 10, 0, 1, -1, 1);
+        lost.close();
+        lost.spanned(0, 20, 0, 0, 10);
+        CHECK.yes("in another one", !lost.tiles(0));
     }
 
     private static void tileEdges() {
@@ -485,6 +502,11 @@ public final class PolygonTest {
         CHECK.refused("slot -1", yard, noSlot, () -> yard.tiles(-1) ? 1 : 0);
         CHECK.refused("none", yard, NoSuchElementException.class, () -> yard.tiles(1) ? 1 : 0);
         CHECK.refused("aslant", yard, UnsupportedOperationException.class, () -> yard.tiles(0) ? 1 : 0);
+        Latticeyard first = typed(0, 0, 4, 3, 0, 3);
+        first.close();
+        first.nth(0, 6, 0);
+        CHECK.refused("the first side alone aslant", first, UnsupportedOperationException.class,
+                () -> first.tiles(0) ? 1 : 0);
         Latticeyard last = typed(0, 0, 4, 0, 4, 4, 1, 4);
         last.close();
         last.nth(0, 16, 0);
