@@ -1242,6 +1242,8 @@ public final class Latticeyard {
         private final int[] xs = new int[MOST_CORNERS];
         private final int[] ys = new int[MOST_CORNERS];
         private final int[] marks = new int[WIDTH * WIDTH];
+        private final int[] rowSides = new int[MOST_CORNERS];
+        private int rowSideCount = 0;
 
         void type(int x, int y) {
             if (count < 0 || count >= MOST_CORNERS) {
@@ -1356,18 +1358,35 @@ public final class Latticeyard {
             return (atOne > 0 && atOther < 0) || (atOne < 0 && atOther > 0);
         }
 
-        /** Where a point is, of the polygon grown some times: an odd count of sides to its right. */
         char placeOf(long x, long y, int times) {
-            boolean isOdd = false;
-            for (int corner = 0; corner < count; corner++) {
-                int next = after(corner);
-                long y1 = times * yOf(corner);
-                long y2 = times * yOf(next);
-                if (y < Math.min(y1, y2) || y > Math.max(y1, y2)) {
-                    continue;
+            findSidesAt(y, times);
+            return placeInRow(x, y, times);
+        }
+
+        /** All points of a row look at the same few sides, so these are found once a row. */
+        private void findSidesAt(long y, int times) {
+            rowSideCount = 0;
+            for (int side = 0; side < count; side++) {
+                long y1 = (long) times * yOf(side);
+                long y2 = (long) times * yOf(after(side));
+                boolean isNear = y >= Math.min(y1, y2) && y <= Math.max(y1, y2);
+                if (isNear && rowSideCount < rowSides.length) {
+                    rowSides[rowSideCount] = side;
+                    rowSideCount++;
                 }
-                long x1 = times * xOf(corner);
-                long x2 = times * xOf(next);
+            }
+        }
+
+        /** Where a point of the row is, of the polygon grown some times: sides to its right are odd within. */
+        private char placeInRow(long x, long y, int times) {
+            boolean isOdd = false;
+            for (int near = 0; near < rowSideCount && near < rowSides.length; near++) {
+                int side = rowSides[near];
+                int next = after(side);
+                long x1 = (long) times * xOf(side);
+                long y1 = (long) times * yOf(side);
+                long x2 = (long) times * xOf(next);
+                long y2 = (long) times * yOf(next);
                 long turn = (x2 - x1) * (y - y1) - (y2 - y1) * (x - x1);
                 if (turn == 0 && x >= Math.min(x1, x2) && x <= Math.max(x1, x2)) {
                     return 'r';
@@ -1457,12 +1476,13 @@ public final class Latticeyard {
         boolean countsAgree(int times) {
             int inside = 0;
             int onRim = 0;
+            int left = times * least(xs);
             int right = times * greatest(xs);
-            int bottom = times * least(ys);
             int top = times * greatest(ys);
-            for (int x = times * least(xs); x <= right; x++) {
-                for (int y = bottom; y <= top; y++) {
-                    char place = placeOf(x, y, times);
+            for (int y = times * least(ys); y <= top; y++) {
+                findSidesAt(y, times);
+                for (int x = left; x <= right; x++) {
+                    char place = placeInRow(x, y, times);
                     inside += place == 'w' ? 1 : 0;
                     onRim += place == 'r' ? 1 : 0;
                 }
