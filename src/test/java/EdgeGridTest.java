@@ -56,11 +56,27 @@ public final class EdgeGridTest {
             EDGE.edges("spanned y", scene, Edge.ARGUMENT, -500, 500, (y, number) -> y.spanned(3, 1, number, 0, 1));
             EDGE.edges("spanned u", scene, Edge.ARGUMENT, -500, 500, (y, u) -> y.spanned(3, 0, 1, u, 0));
             EDGE.edges("spanned v", scene, Edge.ARGUMENT, -500, 500, (y, v) -> y.spanned(3, 1, 0, 0, v));
-            EDGE.refused("no slot, out of range", scene, Edge.INDEX, y -> y.spanned(8, 501, 0, 0, 1));
             EDGE.refused("no slot, in a line", scene, Edge.INDEX, y -> y.spanned(-1, 1, 1, 1, 1));
-            EDGE.refused("out of range, in a line", scene, Edge.ARGUMENT, y -> y.spanned(0, 501, 501, 1, 1));
             EDGE.refused("out of range, 0, 0", scene, Edge.ARGUMENT, y -> y.spanned(0, 0, 0, 0, -501));
-            EDGE.refused("all three", scene, Edge.INDEX, y -> y.spanned(8, 501, 501, 0, 0));
+            spannedOrder(scene);
+        }
+    }
+
+    /** Each of the four numbers alone out of range, the steps being in a line or not. */
+    private static void spannedOrder(Edge.Scene scene) {
+        for (int place = 0; place < 4; place++) {
+            for (int far : new int[] {-501, 501}) {
+                int[] by = {2, 1, 0, 3};
+                int[] line = {0, 0, 0, 0};
+                by[place] = far;
+                line[place] = far;
+                String what = " number " + place + " is " + far;
+                EDGE.refused("no slot," + what, scene, Edge.INDEX, y -> y.spanned(8, by[0], by[1], by[2], by[3]));
+                EDGE.refused("in a line," + what, scene, Edge.ARGUMENT,
+                        y -> y.spanned(0, line[0], line[1], line[2], line[3]));
+                EDGE.refused("all three," + what, scene, Edge.INDEX,
+                        y -> y.spanned(-1, line[0], line[1], line[2], line[3]));
+            }
         }
     }
 

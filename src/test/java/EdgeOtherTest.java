@@ -18,6 +18,7 @@ public final class EdgeOtherTest {
         checksums();
         soundYards();
         lastCall();
+        emptyYard();
         EDGE.end();
     }
 
@@ -268,5 +269,23 @@ public final class EdgeOtherTest {
         EDGE.answers("512th call: grown", scene, 2, y -> y.grown(3));
         Latticeyard yard = behindMostCalls();
         EDGE.due("512th call: refused", Check.answerOf(() -> yard.signAt(1)), "IndexOutOfBoundsException");
+    }
+
+    /** What a yard that holds nothing has none of: all calls of the face that are refused on it. */
+    private static void emptyYard() {
+        Edge.Move[] noGrid = {y -> y.form(0, 'a'), y -> y.has(0, 0, 0) ? 1 : 0, y -> y.isSame(0, 0) ? 1 : 0,
+            y -> y.parts(0, 0), y -> y.meet(0, 0, 0), y -> y.join(0, 0, 0), y -> y.undo(), y -> y.stepX(0, 0),
+            y -> y.stepY(0, 0), y -> y.second(0), y -> y.steps(0, 0), y -> y.nearX(0, 0, 0), y -> y.nearY(0, 0, 0),
+            y -> y.corners(0), y -> y.tellCorner(0, 0, true)};
+        Edge.Move[] noCoinsOrCorners = {y -> y.lacks(), y -> y.lackAt(0), y -> y.canMake(0) ? 1 : 0,
+            y -> y.fewest(0), y -> y.ways(0), y -> y.close(), y -> y.rim(), y -> y.within(), y -> y.where(0, 0),
+            y -> y.isConvex() ? 1 : 0, y -> y.grown(1), y -> y.triangleAt(0, 0), y -> y.tiles(0) ? 1 : 0};
+        for (int call = 0; call < noGrid.length; call++) {
+            EDGE.refused("no grid, call " + call, Latticeyard::new, Edge.NO_ELEMENT, noGrid[call]);
+        }
+        for (int call = 0; call < noCoinsOrCorners.length; call++) {
+            EDGE.refused("no coins, no corners, call " + call, Latticeyard::new, Edge.STATE, noCoinsOrCorners[call]);
+        }
+        EDGE.refused("no text", Latticeyard::new, Edge.INDEX, y -> y.signAt(0));
     }
 }

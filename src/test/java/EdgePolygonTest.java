@@ -20,6 +20,7 @@ public final class EdgePolygonTest {
         grownTexts();
         triangleNumbers();
         ears();
+        laterTriangles();
         tileOrder();
         tileSquares();
         EDGE.end();
@@ -324,6 +325,39 @@ public final class EdgePolygonTest {
         // Corner 2 is straight at first, and corner 6 has corner 8 on its third side until 7 is cut off.
         triangles("the ear with the lowest number again", Edge::full, 11, 0, 1, 11, 1, 2, 2, 3, 4, 11, 2, 4, 11, 4, 5,
                 11, 5, 6, 6, 7, 8, 11, 6, 8, 11, 8, 9, 9, 10, 11);
+    }
+
+    /** The numbers start from 0 again with each close. */
+    private static void laterTriangles() {
+        triangles("closed twice", EdgePolygonTest::closedTwice, 0, 1, 2, 0, 2, 3);
+        triangles("with one more corner", EdgePolygonTest::oneMore, 0, 1, 2, 4, 0, 2, 2, 3, 4);
+        triangles("behind twelve corners", EdgePolygonTest::behindTwelve, 0, 1, 2, 0, 2, 3);
+        EDGE.edges("number behind twelve", EdgePolygonTest::behindTwelve, Edge.NO_ELEMENT, 0, 1,
+                (y, number) -> y.triangleAt(number, 0));
+    }
+
+    private static Latticeyard closedTwice() {
+        Latticeyard yard = shut(2, 1, 0, 4, 0, 0, 8, 0);
+        yard.close();
+        return yard;
+    }
+
+    private static Latticeyard oneMore() {
+        Latticeyard yard = shut(2, 1, 0, 4, 0, 0, 8, 0);
+        yard.corner(8, 1);
+        yard.close();
+        return yard;
+    }
+
+    private static Latticeyard behindTwelve() {
+        Latticeyard yard = Edge.full();
+        yard.clear();
+        yard.corner(2, 1);
+        yard.corner(0, 4);
+        yard.corner(0, 0);
+        yard.corner(8, 0);
+        yard.close();
+        return yard;
     }
 
     // ---- promise 37

@@ -7,6 +7,7 @@ public final class EdgeStepTest {
         stepOrder();
         lastSteps();
         secondSteps();
+        leastStepsSpan();
         stepCounts();
         nearRanges();
         nearTies();
@@ -86,6 +87,24 @@ public final class EdgeStepTest {
         EDGE.answers("none, upright", () -> grid(1, 0, 0, 21), -1, y -> y.second(7));
         EDGE.answers("all points, of great steps", () -> grid(500, 499, 1, 1), 1, y -> y.second(0));
         EDGE.answers("none, aslant", () -> grid(1, 1, 500, -500), -1, y -> y.second(0));
+    }
+
+    /** The step 0 and the first one that is not in a line with it span the grid. */
+    private static void leastStepsSpan() {
+        int[][] all = {{1, 0, 0, 1}, {2, 1, 0, 3}, {19, 0, 0, 1}, {500, 500, -500, 500}, {500, 499, -499, 500},
+            {500, 499, 499, 498}, {500, -500, 1, 500}, {-500, 3, 500, 500}};
+        for (int[] by : all) {
+            Latticeyard yard = new Latticeyard();
+            int index = yard.spanned(0, by[0], by[1], by[2], by[3]);
+            int aside = yard.second(0);
+            int x = yard.stepX(0, 0);
+            int y = yard.stepY(0, 0);
+            int u = yard.stepX(0, aside);
+            int v = yard.stepY(0, aside);
+            // Two points of a grid span it if they span one of its index.
+            EDGE.yes("both are points", yard.has(0, x, y) && yard.has(0, u, v));
+            EDGE.due("the index that they span", Math.abs(x * v - y * u), index);
+        }
     }
 
     // ---- promise 16
