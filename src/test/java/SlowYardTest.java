@@ -2,6 +2,7 @@ import java.lang.reflect.InvocationTargetException;
 import java.lang.reflect.Method;
 import java.util.ArrayList;
 import java.util.Arrays;
+import java.util.Collections;
 import java.util.HashMap;
 import java.util.List;
 import java.util.Map;
@@ -60,7 +61,10 @@ public final class SlowYardTest {
         CHECK.due("calls of " + from, methods.size(), 46);
     }
 
-    /** Half of the runs now and then type corners that are a polygon, as those drawn one by one seldom are. */
+    /**
+     * Half of the runs now and then type corners that are a polygon, as those drawn one by one seldom are;
+     * all take back now and then all calls that are kept.
+     */
     private static void run(int run) throws IllegalAccessException {
         Latticeyard fast = new Latticeyard();
         SlowYard slow = new SlowYard();
@@ -69,6 +73,9 @@ public final class SlowYardTest {
         for (int call = 0; call < 512; call++) {
             if (ahead.isEmpty() && run % 2 == 0 && CHECK.draw(1, 30) == 1) {
                 ahead.addAll(polygonCalls());
+            }
+            if (ahead.isEmpty() && CHECK.draw(1, 80) == 1) {
+                ahead.addAll(Collections.nCopies(12, "undo"));
             }
             String line = ahead.isEmpty() ? CALLS[CHECK.draw(0, CALLS.length - 1)] : ahead.remove(0);
             String name = line.split(" ")[0];
